@@ -236,9 +236,19 @@ public final class RoutesTest {
         x = Meshes.of(Meshes.CHAIN + "will 0 0;will 1 0;will 2 0;will 3 0;");
         CHECK.refused(x, "settles(), nobody is willing", x.settles(), 8);
         CHECK.due("many(2)", x.many(2), 0);
-        // just 120, and one more
         x = Meshes.of("nodes 2;air 0 1;jam 0 1 99;", 1);
         CHECK.fine(x, "settles() behind a JAM", x.settles(), 101);
+        // heard from 100 on, UP at 109, NEIGHBOURS at 110, chosen at 111, told at 112: the NOTICE comes at 120
+        x = Meshes.of("nodes 4;every 9;");
+        x.set(2, 999);
+        x.tick(6);
+        for (int i = 0; i < 3; i++) {
+            x.ear(i, i + 1, true);
+            x.ear(i + 1, i, true);
+            x.jam(i, i + 1, 99);
+            x.jam(i + 1, i, 99);
+        }
+        CHECK.fine(x, "settles() in as many TICKS as can be", x.settles(), 120);
         x = Meshes.of("nodes 4;air 0 1;air 1 2;air 2 3;every 1;");
         CHECK.fine(x, "settles() with EVERY 1", x.settles(), 5);
         x.set(2, 999);
