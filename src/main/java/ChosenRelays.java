@@ -1038,10 +1038,10 @@ public final class ChosenRelays {
             end = 0;
             faultKind = FINE;
             faultPlace = NONE;
-            step();
+            advance();
             for (int i = 0; i < MOST_BYTES && faultKind == FINE && kind != END; i++) {
                 readLine(mesh);
-                step();
+                advance();
             }
         }
 
@@ -1075,7 +1075,7 @@ public final class ChosenRelays {
         }
 
         private void expect(int wanted) {
-            step();
+            advance();
             if (kind == NO_TOKEN) {
                 finds(1);
             } else if (kind != wanted) {
@@ -1091,7 +1091,7 @@ public final class ChosenRelays {
             }
         }
 
-        private void step() {
+        private void advance() {
             start = end;
             while (start < length && (text[start] == 10 || text[start] == 32)) {
                 start++;
@@ -1456,6 +1456,7 @@ public final class ChosenRelays {
         final int[] nodes;
         int steps;
         int ending;
+        /** Those where it was, but for its end. */
         int been;
 
         Going() {
@@ -1483,7 +1484,6 @@ public final class ChosenRelays {
                 steps = step;
                 if (here == to || Mesh.has(been, here)) {
                     ending = here == to ? THERE : ROUND;
-                    been |= Mesh.bit(here);
                     return;
                 }
                 been |= Mesh.bit(here);

@@ -22,7 +22,7 @@ public final class RandomRunsTest {
     }
 
     public static void main(String[] args) throws ReflectiveOperationException {
-        int runs = args.length > 0 ? Integer.parseInt(args[0]) : 60;
+        int runs = args.length > 0 ? Integer.parseInt(args[0]) : 300;
         for (int seed = 0; seed < runs; seed++) {
             new RandomRunsTest(seed).go();
         }

@@ -67,6 +67,25 @@ public final class RelaysTest {
         CHECK.fine(x, "would(0), 1 is always one", x.would(0), 6);
         x.will(3, 7);
         CHECK.fine(x, "would(0), 2 is not needed", x.would(0), 10);
+        // the same with the spare one as the first and as the last of all
+        x = Meshes.of("nodes 6;air 3 0;air 3 1;air 3 2;air 0 4;air 1 4;air 1 5;air 2 5;will 0 4;will 2 1;", 4);
+        CHECK.fine(x, "pick(3, 0)", x.pick(3, 0), 0);
+        CHECK.fine(x, "pick(3, 1)", x.pick(3, 1), 1);
+        CHECK.fine(x, "would(3)", x.would(3), 2);
+        x = Meshes.of("nodes 6;air 0 5;air 0 1;air 0 2;air 5 3;air 1 3;air 1 4;air 2 4;will 5 4;will 2 1;", 4);
+        CHECK.fine(x, "pick(0, 0)", x.pick(0, 0), 5);
+        CHECK.fine(x, "pick(0, 1)", x.pick(0, 1), 1);
+        CHECK.fine(x, "would(0)", x.would(0), 2);
+        // 1 and 2 lead to 5, 2 and 3 to 6: 2 goes, as it is less willing than 1
+        x = Meshes.of("nodes 8;air 0 1;air 0 2;air 0 3;air 0 4;air 1 5;air 2 5;air 2 6;air 3 6;air 3 7;air 4 7;"
+            + "will 1 5;will 2 4;will 4 2;", 4);
+        for (int i = 0; i < 3; i++) {
+            CHECK.fine(x, "pick(0, " + i + ")", x.pick(0, i), i + 1);
+        }
+        CHECK.fine(x, "would(0), the least willing first", x.would(0), 10);
+        x.will(3, 6);
+        CHECK.fine(x, "would(0), 3 is picked first", x.would(0), 10);
+        CHECK.fine(x, "pick(0, 0)", x.pick(0, 0), 3);
     }
 
     private static void onlyWillingOnesCount() {

@@ -374,6 +374,18 @@ public final class RoutesTest {
         x.turn(3, false);
         CHECK.fine(x, "spine(0), who chose it is OFF", x.spine(0), 0);
         CHECK.fine(x, "spine(1), nobody", x.spine(1), 0);
+        x = Meshes.of(Meshes.CHAIN, 6);
+        x.turn(2, false);
+        x.turn(3, false);
+        CHECK.fine(x, "spine(0), 0 alone chose 1", x.spine(0), 2);
+        // all are always chosen
+        String chain = "nodes 8;air 0 1;air 1 2;air 2 3;air 3 4;air 4 5;air 5 6;air 6 7;"
+            + "will 0 7;will 1 7;will 2 7;will 3 7;will 4 7;will 5 7;will 6 7;will 7 7;";
+        x = Meshes.of(chain, 6);
+        CHECK.fine(x, "spine(0) of eight", x.spine(0), 255);
+        CHECK.fine(x, "spine(1) of eight", x.spine(1), 1);
+        CHECK.fine(x, "spine(2) of eight", x.spine(2), 126);
+        CHECK.fine(x, "cuts() of eight", x.cuts(), 126);
         CHECK.refused(x, "spine(3)", x.spine(3), 1);
         CHECK.refused(x, "spine(-1)", x.spine(-1), 1);
         // a BACK has to be joined

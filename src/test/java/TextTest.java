@@ -243,6 +243,7 @@ public final class TextTest {
 
     private static void tooManyNodes() {
         faults("nodes 8;nodes 1;", 6, 14);
+        faults("nodes 1;nodes 8;", 6, 14);
         faults("nodes 5;nodes 4;", 6, 14);
     }
 
