@@ -9,12 +9,18 @@ import java.util.Random;
 public final class RandomRunsTest {
     private static final Check CHECK = new Check("RandomRunsTest");
     private static final List<Method> CALLS = calls();
-    private static final String[] DEEDS = {"add", "turn", "will", "ear", "set", "jam", "tick", "run", "echo"};
+    /** Often ticks, so that a mesh mostly settles between what else is done. */
+    private static final String[] DEEDS = {"tick", "tick", "tick", "tick", "tick", "run", "will", "will", "will", "echo",
+        "echo", "jam", "ear", "turn", "set", "add"};
+
+    /** What would leave nothing to look at, if it came as often as all others. */
+    private static final List<String> RARE = List.of("load", "turn", "ear", "set", "back", "run", "add", "jam");
 
     private final Random random;
     private final ChosenRelays x = new ChosenRelays();
     private final PlainRelays y = new PlainRelays();
     private final String name;
+    private int latest;
 
     private RandomRunsTest(int seed) {
         random = new Random(seed);
@@ -52,12 +58,15 @@ public final class RandomRunsTest {
     private void go() throws ReflectiveOperationException {
         for (int i = 0; i < 500; i++) {
             int dice = random.nextInt(100);
-            if (i == 0 || dice < 1) {
+            Method any = CALLS.get(random.nextInt(CALLS.size()));
+            boolean rare = RARE.contains(any.getName()) && random.nextInt(12) != 0;
+            if (i == 0 || dice < 2) {
                 text(i);
-            } else if (dice < 40) {
+                call(i, named("tick"));
+            } else if (dice < 25) {
                 call(i, named(DEEDS[random.nextInt(DEEDS.length)]));
-            } else {
-                call(i, CALLS.get(random.nextInt(CALLS.size())));
+            } else if (!rare) {
+                call(i, any);
             }
         }
     }
@@ -93,8 +102,8 @@ public final class RandomRunsTest {
         int nodes = Math.max(1, y.many(0));
         x.many(0);
         switch (call + k) {
-            case "load0": return random.nextInt(3) == 0 ? 20 : 0;
-            case "tick0": return 1 + random.nextInt(random.nextInt(6) == 0 ? 40 : 4);
+            case "load0": return 20 * random.nextInt(3);
+            case "tick0": return 1 + random.nextInt(random.nextInt(6) == 0 ? 40 : 8);
             case "run0": return 1 + random.nextInt(random.nextInt(6) == 0 ? 40 : 6);
             case "run1": return random.nextInt(10000);
             case "run2": return random.nextInt(random.nextInt(3) == 0 ? 17 : 6);
@@ -114,8 +123,18 @@ public final class RandomRunsTest {
             case "proves4": return random.nextInt(3);
             case "pick1": case "path2": return random.nextInt(4);
             case "feed0": case "feed1": case "feed2": case "feed3": case "feed4": return Meshes.word(part(), 0);
-            default: return random.nextInt(nodes);
+            default: return another(k, nodes);
         }
+    }
+
+    /** A node: the second one mostly not the first. */
+    private int another(int k, int nodes) {
+        int node = random.nextInt(nodes);
+        if (k == 1 && node == latest && random.nextInt(8) != 0) {
+            node = (node + 1) % nodes;
+        }
+        latest = node;
+        return node;
     }
 
     private byte[] part() {
@@ -132,7 +151,7 @@ public final class RandomRunsTest {
         for (int a = 0; a < nodes; a++) {
             for (int b = a + 1; b < nodes; b++) {
                 if (random.nextInt(100) < thick && text.length() < 300) {
-                    text.append(random.nextInt(12) == 0 ? "ear " : "air ").append(a).append(' ').append(b).append(";\n");
+                    text.append(random.nextInt(20) == 0 ? "ear " : "air ").append(a).append(' ').append(b).append(";\n");
                 }
             }
         }
