@@ -1,3 +1,5 @@
+import java.util.function.Function;
+
 /** Promises 36 to 45: what is done. */
 public final class DeedsTest {
     private static final Check CHECK = new Check("DeedsTest");
@@ -226,10 +228,28 @@ public final class DeedsTest {
     }
 
     private static void allIsTakenBack() {
-        String text = Meshes.CHAIN + "jam 0 1 40;jam 0 1 1;off 3;every 3;hold 7;will 2 4;";
-        ChosenRelays x = Meshes.of(text, 9);
-        ChosenRelays y = Meshes.of(text, 9);
+        for (int ticks = 0; ticks <= 20; ticks += 20) {
+            for (Function<ChosenRelays, String> part : Snapshot.PARTS) {
+                ChosenRelays x = muchUsed();
+                changeAll(x);
+                CHECK.due("back()", x.back(), 0);
+                ChosenRelays y = muchUsed();
+                y.back();
+                for (int i = 0; i < ticks; i++) {
+                    CHECK.due("run() behind back()", x.run(1, i, 2), y.run(1, i, 2));
+                }
+                CHECK.due("all as it was at the MARK", part.apply(x).equals(part.apply(y)), true);
+            }
+        }
+    }
+
+    private static ChosenRelays muchUsed() {
+        ChosenRelays x = Meshes.of(Meshes.CHAIN + "jam 0 1 40;jam 0 1 1;off 3;every 3;hold 7;will 2 4;", 9);
         x.mark();
+        return x;
+    }
+
+    private static void changeAll(ChosenRelays x) {
         x.turn(3, true);
         x.run(50, 77, 5);
         x.add(6);
@@ -242,27 +262,5 @@ public final class DeedsTest {
         x.ear(0, 3, true);
         x.echo(0, 2, 9, 1);
         x.echo(0, 2, 8, 1);
-        CHECK.due("back()", x.back(), 0);
-        for (int round = 0; round < 2; round++) {
-            for (int what = 0; what < 11; what++) {
-                CHECK.due("many(" + what + ")", x.many(what), y.many(what));
-            }
-            for (int node = 0; node < 4; node++) {
-                for (int what = 0; what < 10; what++) {
-                    CHECK.due("node(" + node + ", " + what + ")", x.node(node, what), y.node(node, what));
-                }
-                for (int other = 0; other < 4; other++) {
-                    for (int what = 0; what < 6; what++) {
-                        CHECK.due("link " + node + other + what, x.link(node, other, what), y.link(node, other, what));
-                        CHECK.due("topology", x.topology(node, other, what % 3), y.topology(node, other, what % 3));
-                    }
-                }
-            }
-            for (int i = 0; i < 64; i++) {
-                CHECK.due("notice", x.notice(i / 4, i % 4), y.notice(i / 4, i % 4));
-            }
-            x.run(20, 3, 2);
-            y.run(20, 3, 2);
-        }
     }
 }

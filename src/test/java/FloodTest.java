@@ -169,13 +169,14 @@ public final class FloodTest {
     }
 
     private static void olderOnes() {
-        ChosenRelays x = new ChosenRelays();
         for (int a = 0; a < 16; a++) {
+            ChosenRelays x = new ChosenRelays();
             for (int ahead = 0; ahead < 16; ahead++) {
                 int b = (a + ahead) % 16;
                 CHECK.fine(x, "older(" + a + ", " + b + ")", x.older(a, b), ahead >= 1 && ahead <= 7 ? 1 : 0);
             }
         }
+        ChosenRelays x = new ChosenRelays();
         CHECK.refused(x, "older(-1, 0)", x.older(-1, 0), 1);
         CHECK.refused(x, "older(0, -1)", x.older(0, -1), 1);
         CHECK.refused(x, "older(16, 0)", x.older(16, 0), 1);

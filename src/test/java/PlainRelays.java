@@ -399,6 +399,11 @@ public final class PlainRelays {
         });
     }
 
+    /** How many there are, without a STATUS. */
+    int nodes() {
+        return world.nodes.size();
+    }
+
     public int node(int node, int what) {
         return answer(() -> {
             among(what, 0, 9);

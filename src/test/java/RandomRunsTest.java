@@ -16,11 +16,17 @@ public final class RandomRunsTest {
     /** What would leave nothing to look at, if it came as often as all others. */
     private static final List<String> RARE = List.of("load", "turn", "ear", "set", "back", "run", "add", "jam");
 
+    /** What the document promises of an object. */
+    private static final int MOST_CALLS = 512;
+    /** At most: load(0), a text of twenty parts with what is asked of it, and a tick. */
+    private static final int CALLS_OF_A_STEP = 30;
+
     private final Random random;
     private final ChosenRelays x = new ChosenRelays();
     private final PlainRelays y = new PlainRelays();
     private final String name;
     private int latest;
+    private int calls;
 
     private RandomRunsTest(int seed) {
         random = new Random(seed);
@@ -28,7 +34,7 @@ public final class RandomRunsTest {
     }
 
     public static void main(String[] args) throws ReflectiveOperationException {
-        int runs = args.length > 0 ? Integer.parseInt(args[0]) : 300;
+        int runs = args.length > 0 ? Integer.parseInt(args[0]) : 700;
         for (int seed = 0; seed < runs; seed++) {
             new RandomRunsTest(seed).go();
         }
@@ -56,7 +62,7 @@ public final class RandomRunsTest {
     }
 
     private void go() throws ReflectiveOperationException {
-        for (int i = 0; i < 500; i++) {
+        for (int i = 0; calls <= MOST_CALLS - CALLS_OF_A_STEP; i++) {
             int dice = random.nextInt(100);
             Method any = CALLS.get(random.nextInt(CALLS.size()));
             boolean rare = RARE.contains(any.getName()) && random.nextInt(12) != 0;
@@ -79,6 +85,7 @@ public final class RandomRunsTest {
             args[k] = types[k] == boolean.class ? (Object) random.nextBoolean() : (Object) number(method.getName(), k);
             told.append(k > 0 ? ", " : "").append(args[k]);
         }
+        calls += 2;
         long got = asLong(ChosenRelays.class.getMethod(method.getName(), types), x, args);
         long want = asLong(method, y, args);
         CHECK.due(told.append(')').toString(), got, want);
@@ -99,8 +106,7 @@ public final class RandomRunsTest {
             int[] odd = {-1, 8, 16, 256, 1000, Integer.MAX_VALUE, Integer.MIN_VALUE, 400, 31};
             return odd[random.nextInt(odd.length)];
         }
-        int nodes = Math.max(1, y.many(0));
-        x.many(0);
+        int nodes = Math.max(1, y.nodes());
         switch (call + k) {
             case "load0": return 20 * random.nextInt(3);
             case "tick0": return 1 + random.nextInt(random.nextInt(6) == 0 ? 40 : 8);
@@ -167,6 +173,7 @@ public final class RandomRunsTest {
         if (random.nextInt(6) == 0) {
             text.setCharAt(random.nextInt(text.length()), "0179; \nza#".charAt(random.nextInt(10)));
         }
+        calls++;
         x.load(0);
         y.load(0);
         load(i, text.toString());
@@ -179,9 +186,11 @@ public final class RandomRunsTest {
             for (int k = 0; k < 5; k++) {
                 words[k] = Meshes.word(bytes, at + 4 * k);
             }
+            calls++;
             CHECK.due(name + i + ": feed", x.feed(words[0], words[1], words[2], words[3], words[4]),
                 y.feed(words[0], words[1], words[2], words[3], words[4]));
         }
+        calls += 4;
         CHECK.due(name + i + ": load of " + text, x.load(text.length()), y.load(text.length()));
         CHECK.due(name + i + ": status of " + text, x.status(), y.status());
         CHECK.due(name + i + ": fault of " + text, x.fault(0), y.fault(0));
