@@ -7,6 +7,7 @@ public final class NoticeBoundsTest {
         willsOfNoneAndOfSeven();
         behindIsNeitherItselfNorANeighbour();
         aloneOfAllWilling();
+        neededFromTheFirstToTheLast();
         picksAndNoMore();
         willsThatAreBest();
         leastOfAsMany();
@@ -17,6 +18,7 @@ public final class NoticeBoundsTest {
         olderByAllNumbers();
         oldOnesAreGotToo();
         topologyOfHold();
+        topologyOfEachGoes();
         holdFromNowOn();
         blindOnesGoFurther();
         theLatestSixteen();
@@ -81,6 +83,30 @@ public final class NoticeBoundsTest {
         x.will(2, 7);
         CHECK.refused(x, "pick(0, 0), 2 always is one", x.pick(0, 0), 7);
         CHECK.fine(x, "would(0), 2 always is one", x.would(0), 4);
+    }
+
+    /** In a star of eight its middle alone leads on, whichever NODE it is. */
+    private static void neededFromTheFirstToTheLast() {
+        for (int middle = 0; middle < 8; middle++) {
+            StringBuilder text = new StringBuilder("nodes 8;");
+            for (int node = 0; node < 8; node++) {
+                text.append(node == middle ? "" : "air " + node + " " + middle + ";");
+            }
+            ChosenRelays x = Meshes.of(text.toString(), 6);
+            for (int node = 0; node < 8; node++) {
+                int due = node == middle ? 0 : 1 << middle;
+                CHECK.fine(x, "needed(" + node + ") by " + middle, x.needed(node), due);
+                CHECK.fine(x, "would(" + node + ") by " + middle, x.would(node), due);
+                CHECK.fine(x, "least(" + node + ") by " + middle, x.least(node), due);
+                CHECK.fine(x, "covers(" + node + ", the middle)", x.covers(node, 1 << middle),
+                    node == middle ? 0 : 255 & ~due & ~(1 << node));
+                CHECK.refused(x, "pick(" + node + ", 0) by " + middle, x.pick(node, 0), 7);
+            }
+            CHECK.fine(x, "spine(0) by " + middle, x.spine(0), 1 << middle);
+            CHECK.fine(x, "spine(2) by " + middle, x.spine(2), 1 << middle);
+            CHECK.fine(x, "cuts() by " + middle, x.cuts(), 1 << middle);
+            CHECK.fine(x, "busy(" + middle + ")", x.busy(middle), 42);
+        }
     }
 
     /** "pick: from 0 on (1: below 0; 7: not so many)": one and two are picked, with one more that is none any more. */
@@ -300,6 +326,25 @@ public final class NoticeBoundsTest {
             CHECK.due("OLD", x.many(7), 0);
             x.tick(hold);
             CHECK.refused(x, "topology(0, 1, 0) gone again", x.topology(0, 1, 0), 7);
+        }
+    }
+
+    /** "of each other NODE", the first and the last, to each, the first and the last. */
+    private static void topologyOfEachGoes() {
+        ChosenRelays x = Meshes.of("nodes 8;hold 3;");
+        for (int ticks = 0; ticks <= 3; ticks++) {
+            for (int cell = 0; cell < 64; cell++) {
+                int node = cell / 8;
+                int other = cell % 8;
+                if (node != other && ticks == 0) {
+                    CHECK.due("echo(" + node + ", " + other + ", 15, 255)", x.echo(node, other, 15, 255), 1);
+                }
+                if (node != other) {
+                    CHECK.due("topology(" + node + ", " + other + ", 2) after " + ticks, x.topology(node, other, 2),
+                        ticks == 3 ? -1 : 3 - ticks);
+                }
+            }
+            x.tick(1);
         }
     }
 

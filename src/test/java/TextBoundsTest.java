@@ -10,6 +10,7 @@ public final class TextBoundsTest {
         everyByteAlone();
         everyByteBetween();
         tokensAsLongAsTheyGo();
+        wordsToTheLetter();
         blanksAreFree();
         linesThatEnd();
         linesWithAnotherToken();
@@ -108,6 +109,25 @@ public final class TextBoundsTest {
         faults(TWO + "hold 1000;", 1, 13);
         faults(TWO + "hold 4294967298;", 1, 13);
         faults(TWO + "jam 0 1 0001", 1, 16);
+    }
+
+    /** Of each WORD each letter in turn is another one, one is missing, or one is too many. */
+    private static void wordsToTheLetter() {
+        for (String line : LINES) {
+            String word = line.split(" ")[0];
+            String rest = line.substring(word.length());
+            for (int i = 0; i < word.length(); i++) {
+                for (char other : new char[] {'a', 'q', 'z'}) {
+                    String wrong = word.substring(0, i) + other + word.substring(i + 1);
+                    if (!wrong.equals(word)) {
+                        faults(TWO + wrong + rest, 2, 8);
+                    }
+                    faults(TWO + word.substring(0, i) + other + word.substring(i) + rest, 2, 8);
+                }
+                faults(TWO + word.substring(0, i) + word.substring(i + 1) + rest, 2, 8);
+            }
+            faults(TWO + word + "z" + rest, 2, 8);
+        }
     }
 
     private static void blanksAreFree() {
